@@ -581,7 +581,6 @@ public final class SoapPole {
         int read(Plan plan) {
             start();
             plan.empty();
-            plan.setFeet(0, 0);
             skipBlanks();
             // Each clause is one byte at least.
             for (int i = 0; i < text.length && fault == 0 && at < length; i++) {
