@@ -324,11 +324,10 @@ public final class SoapPole {
             weights = new int[MOST_CLIMBERS];
             arms = new int[MOST_CLIMBERS];
             rubs = new int[MOST_CLIMBERS];
-            worth = 100;
-            price = 1;
-            sunEvery = 1;
+            empty();
         }
 
+        /** What stands untold; the rows are written again as FEET and CLIMBERS are told. */
         void empty() {
             feet = 0;
             climbers = 0;
