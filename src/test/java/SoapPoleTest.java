@@ -1,72 +1,9 @@
 /** Each promise by hand: ordinary calls, the edges that the document names, each refusal. */
-public final class SoapPoleTest {
-    private static final int NONE = -1, UNKNOWN = -1000000001, OUTSIDE = -1000000002, NOT = -1000000003, FULL = -1000000004;
-
+public final class SoapPoleTest extends Due {
     /** c0 comes 1 FOOT far, c1 over all three. */
     private static final String SMALL = "pole 3 10;foot 1 20;climber 50 20 4;climber 25 40 1;ham 30 2;sun 2 3;";
     /** Each slip and one of arms a FOOT (W 50); only rubbing helps. */
     private static final String RUBBED = "pole 2 40;climber 50 50 20;climber 50 60 20;";
-
-    private static int wrong = 0;
-    private static int promise = 0;
-
-    private static void due(String call, int got, int want) {
-        if (got != want) {
-            wrong++;
-            System.out.println("promise " + promise + ": " + call + " answered " + got + ", due is " + want);
-        }
-    }
-
-    private static void feedAll(SoapPole x, String text) {
-        for (int i = 0; i < text.length(); i += 8) {
-            int n = Math.min(8, text.length() - i);
-            long bytes = 0;
-            for (int j = i; j < i + n; j++) {
-                bytes = bytes << 8 | text.charAt(j) & 255;
-            }
-            x.feed(n, bytes);
-        }
-    }
-
-    private static int tell(SoapPole x, String text) {
-        feedAll(x, text);
-        return x.pole();
-    }
-
-    private static SoapPole of(String text) {
-        SoapPole x = new SoapPole();
-        int feet = tell(x, text);
-        if (feet < 0) {
-            due("pole() of " + text, feet, 0);
-        }
-        return x;
-    }
-
-    private static void slips(SoapPole x, int... want) {
-        for (int i = 0; i < want.length; i++) {
-            due("slip(" + i + ")", x.slip(i), want[i]);
-        }
-    }
-
-    private static void toldAll(SoapPole x, int... want) {
-        for (int i = 0; i < want.length; i++) {
-            due("told(" + i + ")", x.told(i), want[i]);
-        }
-    }
-
-    private static void fine(String text, int feet) {
-        SoapPole x = new SoapPole();
-        due("pole() of '" + text + "'", tell(x, text), feet);
-        due("fault() of '" + text + "'", x.fault(), NONE);
-    }
-
-    private static void bad(String text, int number, int place) {
-        SoapPole x = new SoapPole();
-        due("pole() of '" + text + "'", tell(x, text), -10 - number);
-        due("fault() of '" + text + "'", x.fault(), place);
-        due("told(0) behind '" + text + "'", x.told(0), 0);
-        due("told(6) behind '" + text + "'", x.told(6), 0);
-    }
 
     private static void promise1NewObject() {
         SoapPole x = new SoapPole();
@@ -785,23 +722,23 @@ public final class SoapPoleTest {
     }
 
     private static void promise23And24Images() {
-        promise = 23;
+        says("promise 23");
         SoapPole x = of(SMALL);
         due("keep(2)", x.keep(2), UNKNOWN);
         due("keep(-1)", x.keep(-1), UNKNOWN);
         x.seed(3);
         x.go(0);
         due("keep(0)", x.keep(0), 1);
-        promise = 24;
+        says("promise 24");
         due("goBack(2)", x.goBack(2), UNKNOWN);
         due("goBack(-1)", x.goBack(-1), UNKNOWN);
         due("goBack(1)", x.goBack(1), NOT);
         x.go(1);
         x.seed(9);
         x.list(0, 1);
-        promise = 23;
+        says("promise 23");
         due("keep(1)", x.keep(1), 1);
-        promise = 24;
+        says("promise 24");
         due("goBack(0)", x.goBack(0), 1);
         toldAll(x, 3, 2, 30, 2, 2, 3, 0, 1, NONE, 1, 37);
         due("seed(3)", x.seed(3), 3);
@@ -816,7 +753,7 @@ public final class SoapPoleTest {
         due("told(8)", x.told(8), 1);
         due("seed(9)", x.seed(9), 9);
         // Kept again, it is the later one.
-        promise = 23;
+        says("promise 23");
         x.begin();
         due("keep(1)", x.keep(1), 1);
         x.go(1);
@@ -835,62 +772,59 @@ public final class SoapPoleTest {
 
     public static void main(String[] args) {
         constants();
-        promise = 1;
+        says("promise 1");
         promise1NewObject();
-        promise = 2;
+        says("promise 2");
         promise2Feed();
-        promise = 3;
+        says("promise 3");
         promise3PoleRight();
         promise3FaultsOfSigns();
         promise3FaultsOfNumbers();
         promise3FaultsOfOften();
-        promise = 4;
+        says("promise 4");
         promise4Fault();
-        promise = 5;
+        says("promise 5");
         promise5Told();
-        promise = 6;
+        says("promise 6");
         promise6Slip();
-        promise = 7;
+        says("promise 7");
         promise7Climber();
-        promise = 8;
+        says("promise 8");
         promise8Go();
         promise8GoRubsAndSmears();
         promise8GoSun();
-        promise = 9;
+        says("promise 9");
         promise9Soap();
-        promise = 10;
+        says("promise 10");
         promise10Hang();
-        promise = 11;
+        says("promise 11");
         promise11Begin();
-        promise = 12;
+        says("promise 12");
         promise12Drift();
-        promise = 13;
+        says("promise 13");
         promise13Order();
         promise13OrderSun();
         promise13OrderAskedAgain();
-        promise = 14;
+        says("promise 14");
         promise14ForOne();
         promise14ForOneSix();
-        promise = 15;
+        says("promise 15");
         promise15Rests();
-        promise = 16;
+        says("promise 16");
         promise16Tower();
-        promise = 17;
+        says("promise 17");
         promise17List();
-        promise = 18;
+        says("promise 18");
         promise18Tear();
-        promise = 19;
+        says("promise 19");
         promise19Enough();
-        promise = 20;
+        says("promise 20");
         promise20Judge();
-        promise = 21;
+        says("promise 21");
         promise21Sand();
-        promise = 22;
+        says("promise 22");
         promise22Seed();
         promise23And24Images();
-        System.out.println(wrong == 0 ? "all answers are as due" : wrong + " answers are not as due");
-        if (wrong != 0) {
-            System.exit(1);
-        }
+        end();
     }
 }
