@@ -701,6 +701,10 @@ public final class SoapPole {
             }
         }
 
+        private int number(int i) {
+            return i >= 0 && i < numbers.length ? numbers[i] : 0;
+        }
+
         private static int least(int kind, int i) {
             switch (kind) {
                 case POLE:
@@ -745,8 +749,8 @@ public final class SoapPole {
         }
 
         private void take(int kind, Plan plan) {
-            int a = numbers[0];
-            int b = numbers[1];
+            int a = number(0);
+            int b = number(1);
             switch (kind) {
                 case POLE:
                     poleTold = true;
@@ -760,7 +764,7 @@ public final class SoapPole {
                     plan.setSlip(a, b);
                     break;
                 case CLIMBER:
-                    plan.addClimber(a, b, numbers[2]);
+                    plan.addClimber(a, b, number(2));
                     break;
                 case HAM:
                     hamTold = true;
@@ -875,7 +879,7 @@ public final class SoapPole {
     private static final class Rows {
         private static final int GOES = -1, WHO = -2;
 
-        /** How the pole is behind so many GOES of the row that is tried. */
+        /** How the pole is behind each GO of the row that is tried. */
         final Pole[] steps;
         final int[] row;
         int goal;
@@ -962,21 +966,25 @@ public final class SoapPole {
             if (from.holder != NONE) {
                 return NONE;
             }
-            steps[0].become(from);
             for (int n = 1; n <= most; n++) {
                 goal = n;
-                if (findFrom(plan, 0, 0)) {
+                if (findFrom(plan, from, 0, 0)) {
                     return n;
                 }
             }
             return NONE;
         }
 
-        private boolean findFrom(Plan plan, int depth, int used) {
-            if (depth < 0 || depth >= goal || depth >= row.length || depth >= steps.length || isHopeless(plan, depth)) {
+        /** Ends the row that has so many GOES yet, behind which the pole is so; false if nobody can. */
+        private boolean findFrom(Plan plan, Pole at, int depth, int used) {
+            int behind = goal - 1 - depth;
+            if (behind < 0 || depth < 0 || depth >= row.length || depth >= steps.length) {
                 return false;
             }
-            boolean ends = depth + 1 >= goal || depth + 1 >= steps.length;
+            if (isHopeless(plan, at, behind)) {
+                return false;
+            }
+            boolean ends = behind == 0;
             for (int c = 0; c < plan.climbers; c++) {
                 boolean mayGo = !onceEach || (used >> c & 1) == 0;
                 if (!mayGo || (ends && lastOne != NONE && c != lastOne)) {
@@ -984,15 +992,15 @@ public final class SoapPole {
                 }
                 row[depth] = c;
                 if (ends) {
-                    if (steps[depth].reach(plan, c, 0, false) == plan.feet) {
+                    if (at.reach(plan, c, 0, false) == plan.feet) {
                         return true;
                     }
                     continue;
                 }
-                Pole next = steps[depth + 1];
-                next.become(steps[depth]);
+                Pole next = steps[depth];
+                next.become(at);
                 next.climb(plan, c, false);
-                if (next.holder == NONE && findFrom(plan, depth + 1, used | 1 << c)) {
+                if (next.holder == NONE && findFrom(plan, next, depth + 1, used | 1 << c)) {
                     return true;
                 }
             }
@@ -1000,11 +1008,11 @@ public final class SoapPole {
         }
 
         /** Without this look ahead nearly all the time goes into rows of which the last GO cannot get there. */
-        private boolean isHopeless(Plan plan, int depth) {
-            int less = (goal - 1 - depth) * plan.mostRub();
+        private boolean isHopeless(Plan plan, Pole at, int goes) {
+            int less = goes * plan.mostRub();
             for (int c = 0; c < plan.climbers; c++) {
                 boolean mayEnd = lastOne == NONE || c == lastOne;
-                if (mayEnd && steps[depth].mayReach(plan, c, less)) {
+                if (mayEnd && at.mayReach(plan, c, less)) {
                     return false;
                 }
             }
